@@ -41,9 +41,10 @@ public final class RisingSnow {
     private static final int WORD = -3;
     private static final int STUCK = -4;
 
-    // The OWN WORDS, and behind them those that begin a QUESTION, which may be NAMES too; a blank
-    // stands behind each, and their kinds below go up by one from word to word.
-    private static final String WORDS = "place way takes person at thing weighs from knows fade say hear rise catch breaks thief busy know day points hangs lies number gone or and not all min max first last often total most least ";
+    // The OWN WORDS, and behind them those that begin a QUESTION, which may be NAMES too, in columns
+    // of seven; their kinds below go up by one from word to word.
+    private static final int COLUMN = 7;
+    private static final String WORDS = "place  way    takes  person at     thing  weighs from   knows  fade   say    hear   rise   catch  breaks thief  busy   know   day    points hangs  lies   number gone   or     and    not    all    min    max    first  last   often  total  most   least  ";
     private static final int WORD_PLACE = 300;
     private static final int WORD_WAY = 301;
     private static final int WORD_TAKES = 302;
@@ -77,7 +78,6 @@ public final class RisingSnow {
     private static final int WORD_OFTEN = 332;
     private static final int WORD_TOTAL = 333;
     private static final int WORD_MOST = 334;
-    private static final int WORD_LEAST = 335;
 
     // The SUMS of a VALLEY, in the order of their words.
     private static final int FADE = 0;
@@ -122,7 +122,7 @@ public final class RisingSnow {
     private static final int REFUSALS = 6;
 
     private final Tape tape;
-    private final Scanner scanner;
+    private final Tokens tokens;
     private final ValleyReader reader;
     private final Questions questions;
     private final Nature nature;
@@ -143,10 +143,10 @@ public final class RisingSnow {
     public RisingSnow() {
         Machine machine = new Machine();
         tape = new Tape();
-        scanner = new Scanner(tape);
-        Formulas formulas = new Formulas(scanner);
-        reader = new ValleyReader(scanner, formulas);
-        questions = new Questions(scanner, formulas, machine);
+        tokens = new Tokens(tape);
+        Formulas formulas = new Formulas(tokens);
+        reader = new ValleyReader(tokens, formulas);
+        questions = new Questions(tokens, formulas, machine);
         nature = new Nature(machine);
         ahead = new Ahead(nature);
         now = new Moment();
@@ -478,8 +478,8 @@ public final class RisingSnow {
     }
 
     private void noteFault() {
-        fault = scanner.fault;
-        faultAt = scanner.faultAt;
+        fault = tokens.fault;
+        faultAt = tokens.faultAt;
         tape.size = 0;
     }
 
@@ -608,7 +608,7 @@ public final class RisingSnow {
     }
 
     /** Goes along the tape token by token, and keeps the first FAULT. */
-    static final class Scanner {
+    static final class Tokens {
         final Tape tape;
         int kind;
         int start;
@@ -618,7 +618,7 @@ public final class RisingSnow {
         int fault;
         int faultAt;
 
-        Scanner(Tape tape) {
+        Tokens(Tape tape) {
             this.tape = tape;
             faultAt = NONE;
         }
@@ -682,21 +682,19 @@ public final class RisingSnow {
         }
 
         private int wordKind() {
+            if (size > MOST_LETTERS) {
+                return WORD;
+            }
             int word = WORD_PLACE;
-            int letters = 0;
-            boolean same = true;
-            for (int i = 0; i < WORDS.length(); i++) {
-                char c = WORDS.charAt(i);
-                if (c != ' ') {
-                    same = same && letters < size && tape.bytes[start + letters] == c;
-                    letters++;
-                } else if (same && letters == size) {
-                    return word;
-                } else {
-                    word++;
-                    letters = 0;
-                    same = true;
+            for (int from = 0; from + COLUMN <= WORDS.length(); from += COLUMN) {
+                int k = 0;
+                while (k < size && WORDS.charAt(from + k) == tape.bytes[start + k]) {
+                    k++;
                 }
+                if (k == size && WORDS.charAt(from + k) == ' ') {
+                    return word;
+                }
+                word++;
             }
             return WORD;
         }
@@ -717,7 +715,11 @@ public final class RisingSnow {
         }
 
         boolean need(int wanted) {
-            return skip(wanted) || refuseHere(NO_SUCH_TEXT);
+            if (kind != wanted) {
+                return refuseHere(NO_SUCH_TEXT);
+            }
+            next();
+            return true;
         }
 
         /** Whether the token is a number; it stays. */
@@ -767,7 +769,7 @@ public final class RisingSnow {
             return letters[which * MOST_LETTERS + k];
         }
 
-        int indexOf(Scanner word) {
+        int indexOf(Tokens word) {
             for (int which = 0; which < count; which++) {
                 boolean same = true;
                 for (int k = 0; k < MOST_LETTERS && same; k++) {
@@ -780,7 +782,7 @@ public final class RisingSnow {
             return NONE;
         }
 
-        void add(Scanner word) {
+        void add(Tokens word) {
             if (count < most) {
                 for (int k = 0; k < MOST_LETTERS; k++) {
                     letters[count * MOST_LETTERS + k] = letterIn(word, k);
@@ -789,7 +791,7 @@ public final class RisingSnow {
             }
         }
 
-        private static int letterIn(Scanner word, int k) {
+        private static int letterIn(Tokens word, int k) {
             return k < word.size ? word.tape.bytes[word.start + k] - 'a' + 1 : 0;
         }
     }
@@ -847,7 +849,7 @@ public final class RisingSnow {
             busy = 0;
         }
 
-        boolean isNamed(Scanner word) {
+        boolean isNamed(Tokens word) {
             return places.indexOf(word) != NONE || people.indexOf(word) != NONE || things.indexOf(word) != NONE;
         }
 
@@ -865,15 +867,15 @@ public final class RisingSnow {
 
     /** Turns SUMS and TESTS into steps: values first, then what joins them. */
     static final class Formulas {
-        final Scanner scan;
+        final Tokens tokens;
         final int[] ofQuestion;
         int[] steps;
         int size;
         int sort;
         int open;
 
-        Formulas(Scanner scan) {
-            this.scan = scan;
+        Formulas(Tokens tokens) {
+            this.tokens = tokens;
             ofQuestion = new int[MOST_BYTES];
             steps = ofQuestion;
         }
@@ -895,27 +897,31 @@ public final class RisingSnow {
         /** One more is open from this token on. */
         private boolean openHere() {
             if (open >= MOST_OPEN) {
-                return scan.refuseHere(TOO_DEEP);
+                return tokens.refuseHere(TOO_DEEP);
             }
             open++;
-            scan.next();
+            tokens.next();
             return true;
         }
 
         private boolean openBracket() {
-            return scan.kind == '(' ? openHere() : scan.refuseHere(NO_SUCH_TEXT);
+            return tokens.kind == '(' ? openHere() : tokens.refuseHere(NO_SUCH_TEXT);
         }
 
         private boolean shut(int sign) {
+            if (tokens.kind != sign) {
+                return tokens.refuseHere(NO_SUCH_TEXT);
+            }
             open--;
-            return scan.need(sign);
+            tokens.next();
+            return true;
         }
 
-        boolean readTest() {
+        private boolean readTest() {
             if (!readBoth()) {
                 return false;
             }
-            for (int i = 0; i < MOST_BYTES && scan.skip(WORD_OR); i++) {
+            for (int i = 0; i < MOST_BYTES && tokens.skip(WORD_OR); i++) {
                 if (!readBoth()) {
                     return false;
                 }
@@ -928,7 +934,7 @@ public final class RisingSnow {
             if (!readFact()) {
                 return false;
             }
-            for (int i = 0; i < MOST_BYTES && scan.skip(WORD_AND); i++) {
+            for (int i = 0; i < MOST_BYTES && tokens.skip(WORD_AND); i++) {
                 if (!readFact()) {
                     return false;
                 }
@@ -938,7 +944,7 @@ public final class RisingSnow {
         }
 
         private boolean readFact() {
-            switch (scan.kind) {
+            switch (tokens.kind) {
                 case WORD_NOT:
                     if (!openHere() || !readFact()) {
                         return false;
@@ -950,7 +956,7 @@ public final class RisingSnow {
                     return openHere() && readTest() && shut(']');
                 case WORD_ALL:
                     put(1);
-                    scan.next();
+                    tokens.next();
                     return true;
                 default:
                     return readComparison();
@@ -961,11 +967,11 @@ public final class RisingSnow {
             if (!readSum()) {
                 return false;
             }
-            int sign = scan.kind;
+            int sign = tokens.kind;
             if (sign != '<' && sign != '>' && sign != '=') {
-                return scan.refuseHere(NO_SUCH_TEXT);
+                return tokens.refuseHere(NO_SUCH_TEXT);
             }
-            scan.next();
+            tokens.next();
             if (!readSum()) {
                 return false;
             }
@@ -973,16 +979,16 @@ public final class RisingSnow {
             return true;
         }
 
-        boolean readSum() {
+        private boolean readSum() {
             if (!readProduct()) {
                 return false;
             }
             for (int i = 0; i < MOST_BYTES; i++) {
-                int sign = scan.kind;
+                int sign = tokens.kind;
                 if (sign != '+' && sign != '-') {
                     break;
                 }
-                scan.next();
+                tokens.next();
                 if (!readProduct()) {
                     return false;
                 }
@@ -996,11 +1002,11 @@ public final class RisingSnow {
                 return false;
             }
             for (int i = 0; i < MOST_BYTES; i++) {
-                int sign = scan.kind;
+                int sign = tokens.kind;
                 if (sign != '*' && sign != '/') {
                     break;
                 }
-                scan.next();
+                tokens.next();
                 if (!readPart()) {
                     return false;
                 }
@@ -1010,7 +1016,7 @@ public final class RisingSnow {
         }
 
         private boolean readPart() {
-            switch (scan.kind) {
+            switch (tokens.kind) {
                 case '(':
                     return openHere() && readSum() && shut(')');
                 case WORD_MIN:
@@ -1018,11 +1024,11 @@ public final class RisingSnow {
                 case WORD_MAX:
                     return readPair(GREATER);
                 case NUMBER:
-                    if (!scan.isNumber()) {
+                    if (!tokens.isNumber()) {
                         return false;
                     }
-                    put(scan.value);
-                    scan.next();
+                    put(tokens.value);
+                    tokens.next();
                     return true;
                 default:
                     return readWord();
@@ -1030,8 +1036,8 @@ public final class RisingSnow {
         }
 
         private boolean readPair(int step) {
-            scan.next();
-            if (!openBracket() || !readSum() || !scan.need(',') || !readSum() || !shut(')')) {
+            tokens.next();
+            if (!openBracket() || !readSum() || !tokens.need(',') || !readSum() || !shut(')')) {
                 return false;
             }
             put(step);
@@ -1039,7 +1045,7 @@ public final class RisingSnow {
         }
 
         private boolean readWord() {
-            if (sort == QUESTION && scan.kind == WORD_POINTS) {
+            if (sort == QUESTION && tokens.kind == WORD_POINTS) {
                 if (!openHere() || !readPart()) {
                     return false;
                 }
@@ -1047,12 +1053,12 @@ public final class RisingSnow {
                 put(POINTS_OF);
                 return true;
             }
-            int step = stepOf(scan.kind);
+            int step = stepOf(tokens.kind);
             if (step == NO_STEP) {
-                return scan.refuseHere(NO_SUCH_TEXT);
+                return tokens.refuseHere(NO_SUCH_TEXT);
             }
             put(step);
-            scan.next();
+            tokens.next();
             return true;
         }
 
@@ -1082,12 +1088,12 @@ public final class RisingSnow {
 
     /** Reads the text of a VALLEY. */
     static final class ValleyReader {
-        final Scanner scan;
+        final Tokens tokens;
         final Formulas formulas;
         int written;
 
-        ValleyReader(Scanner scan, Formulas formulas) {
-            this.scan = scan;
+        ValleyReader(Tokens tokens, Formulas formulas) {
+            this.tokens = tokens;
             this.formulas = formulas;
         }
 
@@ -1095,23 +1101,23 @@ public final class RisingSnow {
         int read(Valley draft) {
             draft.clear();
             written = 0;
-            scan.begin();
+            tokens.begin();
             int statements = 0;
-            while (statements < MOST_STATEMENTS && scan.kind != END) {
-                if (!readStatement(draft) || !scan.need(';')) {
+            while (statements < MOST_STATEMENTS && tokens.kind != END) {
+                if (!readStatement(draft) || !tokens.need(';')) {
                     return NONE;
                 }
                 statements++;
             }
-            if (scan.kind != END) {
-                scan.refuseHere(TOO_MANY);
+            if (tokens.kind != END) {
+                tokens.refuseHere(TOO_MANY);
                 return NONE;
             }
             return statements;
         }
 
         private boolean readStatement(Valley v) {
-            int word = scan.kind;
+            int word = tokens.kind;
             if (word >= WORD_FADE && word <= WORD_RISE) {
                 return readRule(v, word - WORD_FADE);
             }
@@ -1132,52 +1138,52 @@ public final class RisingSnow {
                 case WORD_BUSY:
                     return readSetting(v, word);
                 default:
-                    return scan.refuseHere(NO_SUCH_TEXT);
+                    return tokens.refuseHere(NO_SUCH_TEXT);
             }
         }
 
         /** The first word of a STATEMENT that gives a NAME, and that NAME. */
         private boolean readNew(Valley v, Names names) {
             if (names.count >= names.most) {
-                return scan.refuseHere(TOO_MANY);
+                return tokens.refuseHere(TOO_MANY);
             }
-            scan.next();
-            if (!scan.isName()) {
+            tokens.next();
+            if (!tokens.isName()) {
                 return false;
             }
-            if (v.isNamed(scan)) {
-                return scan.refuseHere(NO_SUCH_NAME);
+            if (v.isNamed(tokens)) {
+                return tokens.refuseHere(NO_SUCH_NAME);
             }
-            names.add(scan);
-            scan.next();
+            names.add(tokens);
+            tokens.next();
             return true;
         }
 
         /** The number of a NAME told ahead that is none of the barred ones; NONE with a FAULT. */
         private int readOld(Names names, int barred) {
-            if (!scan.isName()) {
+            if (!tokens.isName()) {
                 return NONE;
             }
-            int which = names.indexOf(scan);
+            int which = names.indexOf(tokens);
             if (which == NONE || (barred >> which & 1) != 0) {
-                scan.refuseHere(NO_SUCH_NAME);
+                tokens.refuseHere(NO_SUCH_NAME);
                 return NONE;
             }
-            scan.next();
+            tokens.next();
             return which;
         }
 
         private boolean readWay(Valley v) {
-            scan.next();
+            tokens.next();
             int one = readOld(v.places, 0);
             if (one == NONE) {
                 return false;
             }
             int other = readOld(v.places, 1 << one);
-            if (other == NONE || !scan.need(WORD_TAKES)) {
+            if (other == NONE || !tokens.need(WORD_TAKES)) {
                 return false;
             }
-            int takes = scan.takeNumber(1, 99);
+            int takes = tokens.takeNumber(1, 99);
             if (takes == NONE) {
                 return false;
             }
@@ -1188,7 +1194,7 @@ public final class RisingSnow {
 
         private boolean readPerson(Valley v) {
             int who = v.people.count;
-            if (!readNew(v, v.people) || !scan.need(WORD_AT)) {
+            if (!readNew(v, v.people) || !tokens.need(WORD_AT)) {
                 return false;
             }
             int place = readOld(v.places, 0);
@@ -1201,16 +1207,16 @@ public final class RisingSnow {
 
         private boolean readThing(Valley v) {
             int which = v.things.count;
-            if (!readNew(v, v.things) || !scan.need(WORD_WEIGHS)) {
+            if (!readNew(v, v.things) || !tokens.need(WORD_WEIGHS)) {
                 return false;
             }
-            int weight = scan.takeNumber(1, 9);
+            int weight = tokens.takeNumber(1, 9);
             if (weight == NONE || which >= MOST_THINGS) {
                 return false;
             }
             v.weights[which] = weight;
             v.hangs[which] = 0;
-            return !scan.skip(WORD_FROM) || readRoots(v, which);
+            return !tokens.skip(WORD_FROM) || readRoots(v, which);
         }
 
         private boolean readRoots(Valley v, int which) {
@@ -1221,7 +1227,7 @@ public final class RisingSnow {
                     return false;
                 }
                 roots |= 1 << root;
-                if (scan.kind == ';') {
+                if (tokens.kind == ';') {
                     break;
                 }
             }
@@ -1230,7 +1236,7 @@ public final class RisingSnow {
         }
 
         private boolean readKnows(Valley v) {
-            scan.next();
+            tokens.next();
             int who = readOld(v.people, 0);
             if (who == NONE) {
                 return false;
@@ -1239,7 +1245,7 @@ public final class RisingSnow {
             if (which == NONE) {
                 return false;
             }
-            int points = scan.takeNumber(0, MOST_POINTS);
+            int points = tokens.takeNumber(0, MOST_POINTS);
             if (points == NONE) {
                 return false;
             }
@@ -1249,9 +1255,9 @@ public final class RisingSnow {
 
         private boolean readRule(Valley v, int sum) {
             if (v.from[sum] != NONE) {
-                return scan.refuseHere(TOO_MANY);
+                return tokens.refuseHere(TOO_MANY);
             }
-            scan.next();
+            tokens.next();
             formulas.begin(v.steps, written, sum);
             if (!formulas.readSum()) {
                 return false;
@@ -1263,10 +1269,10 @@ public final class RisingSnow {
         }
 
         private boolean readSetting(Valley v, int word) {
-            scan.next();
+            tokens.next();
             int least = word == WORD_CATCH ? 1 : 0;
             int most = word == WORD_BREAKS ? 999 : word == WORD_BUSY ? 100 : 99;
-            int number = scan.takeNumber(least, most);
+            int number = tokens.takeNumber(least, most);
             if (number == NONE) {
                 return false;
             }
@@ -1285,28 +1291,28 @@ public final class RisingSnow {
 
     /** Reads QUESTIONS and answers them. */
     static final class Questions {
-        final Scanner scan;
+        final Tokens tokens;
         final Formulas formulas;
         final Machine machine;
         int word;
 
-        Questions(Scanner scan, Formulas formulas, Machine machine) {
-            this.scan = scan;
+        Questions(Tokens tokens, Formulas formulas, Machine machine) {
+            this.tokens = tokens;
             this.formulas = formulas;
             this.machine = machine;
         }
 
         /** Whether the tape is a QUESTION. */
         boolean read() {
-            scan.begin();
-            word = scan.kind;
+            tokens.begin();
+            word = tokens.kind;
             if (word < WORD_FIRST) {
-                return scan.refuseHere(NO_SUCH_TEXT);
+                return tokens.refuseHere(NO_SUCH_TEXT);
             }
-            scan.next();
+            tokens.next();
             formulas.begin(formulas.ofQuestion, 0, QUESTION);
             boolean fine = word <= WORD_OFTEN ? formulas.readTest() : formulas.readSum();
-            return fine && (scan.kind == END || scan.refuseHere(NO_SUCH_TEXT));
+            return fine && (tokens.kind == END || tokens.refuseHere(NO_SUCH_TEXT));
         }
 
         long answer(Valley v, Moment m, int who) {
