@@ -29,6 +29,8 @@ public final class AheadTest {
     D.due("13 later(1, 0, 1)", x.later(1, 0, 1), -1);
     D.due("13 later(0, 2, 1)", x.later(0, 2, 1), -1);
     D.due("13 nothing is changed", x.points(0, 0), 30);
+    RisingSnow y = D.told("place a;person p at a;thing t weighs 1;knows p t 99;fade points-day*10;", 5);
+    D.due("13 by days", y.later(0, 0, 4), 39);
     D.due("13 nothing is changed", x.has(3), 0);
     D.due("13 nothing is refused", x.status(3), 0);
   }
@@ -103,6 +105,10 @@ public final class AheadTest {
     D.due("16 what -1", x.keep(0, 1, 1, -1), -1);
     D.due("16 nothing is changed", x.points(0, 0), 50);
     D.due("16 nothing is changed", x.has(8), 0);
+    x = D.told("place a;person p at a;thing t weighs 1;knows p t 50;fade points-day*50;say points+2;", 6);
+    D.due("16 by days: 52, 4 are left", x.keep(0, 1, 2, 1), 1);
+    D.due("16 by days", x.keep(0, 1, 1, 1), 0);
+    D.due("16 by days", x.keep(0, 1, 3, 1), -1);
   }
 
   /** q, who hears it, keeps t known by two, which p needs to keep u: saying t or u does it. */
@@ -112,6 +118,15 @@ public final class AheadTest {
     D.due("16 three nights without", x.keep(0, 2, 3, 1), 0);
     D.due("16 four nights: t, so that q keeps u", x.keep(0, 2, 4, 1), 1);
     D.due("16 how many", x.keep(0, 2, 4, 0), 1);
+    // q keeps b, c, d only while p says r; b, c fade if one alone knows them, d if two do
+    x = D.told("place a;person p at a;person q at a;thing r weighs 3;thing b weighs 1 from r;thing c weighs 1 from r;thing d weighs 2 from r;"
+        + "knows p r 99;knows p b 99;knows p c 99;knows p d 99;knows q r 2;knows q b 99;knows q c 99;knows q d 99;hear points+9;"
+        + "fade points-max(0,2-know)*max(0,2-weighs)*30-max(0,know-1)*min(max(0,weighs-1),max(0,3-weighs))*30-max(0,weighs-2);", 17);
+    D.due("16 b and c, or r and d: the least bits", x.keep(0, 14, 6, 1), 6);
+    D.due("16 how many", x.keep(0, 14, 6, 0), 2);
+    D.due("16 b and c, or r alone: the fewest", x.keep(0, 6, 6, 1), 1);
+    D.due("16 d without any", x.keep(0, 8, 6, 1), 0);
+    D.due("16 b, or r: the least bits", x.keep(0, 2, 6, 1), 1);
   }
 
   static void best() {
@@ -132,6 +147,10 @@ public final class AheadTest {
     D.due("17 no such", x.best(-1, 1, 0), -1);
     D.due("17 what 2", x.best(0, 1, 2), -1);
     D.due("17 what -1", x.best(0, 1, -1), -1);
+    x = D.told("place a;person p at a;thing t weighs 1;thing u weighs 1;knows p t 30;knows p u 60;fade points-day*50;say points+30;", 8);
+    D.due("17 by days", x.best(0, 2, 0), 0);
+    D.due("17 by days", x.best(0, 2, 1), 2);
+    D.due("17 by days", x.best(0, 3, 1), 0);
     x = D.told("place a;person p at a;thing t weighs 1;knows p t 1;fade 0;", 5);
     D.due("17 known now, but then none", x.best(0, 1, 0), 0);
     D.due("17 known now, but then none", x.best(0, 1, 1), 0);
@@ -234,6 +253,10 @@ public final class AheadTest {
     x = D.told(text + "knows p t 99;knows p u 98;thief 98;", 7);
     D.due("21 u said first", x.against(0, 1, 1), 1);
     D.due("21 then t has 1", x.against(0, 1, 2), 1);
+    x = D.told(text + "knows p t 60;fade points-day*50;say points;thief 0;", 8);
+    D.due("21 the second day takes 50", x.against(0, 0, 2), 1);
+    x = D.told(text + "knows p t 50;fade points-day*50;say points;thief 0;", 8);
+    D.due("21 the second day takes 50", x.against(0, 0, 2), 0);
     x = D.told(text + "knows p u 50;", 5);
     D.due("21 hangs on what he does not know", x.against(0, 1, 0), 1);
     D.due("21 hangs on what he does not know", x.against(0, 1, 1), 0);

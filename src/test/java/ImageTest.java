@@ -10,6 +10,7 @@ public final class ImageTest {
     written();
     read();
     refused();
+    withoutThings();
     large();
     D.close();
   }
@@ -125,6 +126,17 @@ public final class ImageTest {
     D.due("32 all stays", x.has(8), 1);
     D.due("32 all stays", x.points(0, 0), 97);
     D.due("32 all stays", x.undo(), true);
+  }
+
+  /** People, but no things; the last byte is above all that the others may be. */
+  static void withoutThings() {
+    RisingSnow x = D.told("place a;place b;person p at a;person q at b;", 4);
+    for (int day = 0; day < 9999; day += 111) {
+      int[] b = checked(day >> 8, day & 255, 1, 0, 0);
+      D.due("32 day " + day, on(x, b), true);
+      same(x, b);
+    }
+    D.due("32 no such place", on(x, checked(0, 0, 1, 2, 0)), false);
   }
 
   static void large() {

@@ -303,36 +303,34 @@ public final class NatureTest {
     seedStays();
   }
 
-  /** undo() and valley() leave the seed; refused days() draw nothing; without people one draw a day. */
+  /** undo() and valley() leave the seed; refused days() draw nothing; without people or things one draw a day. */
   static void seedStays() {
+    String[] bare = {"busy 100;", "place a;person p at a;busy 100;", "thing t weighs 1;busy 100;"};
     String text = "place a;person p at a;person q at a;thing t weighs 1;knows p t 1;knows q t 1;say points+1;busy 50;";
-    RisingSnow x = D.told("busy 100;", 1);
-    RisingSnow y = new RisingSnow();
-    long[] s = {1};
-    x.days(3);
-    y.days(2);
-    y.days(101);
-    y.days(1);
-    y.undo();
-    for (int i = 0; i < 3; i++) {
-      draw(s, 100);
-    }
-    Due.feed(x, text);
-    x.valley();
-    Due.feed(y, text);
-    y.valley();
-    int[] points = {1, 1};
-    for (int i = 0; i < 30; i++) {
-      if (draw(s, 100) < 50) {
-        points[(int) draw(s, 2)]++;
-        draw(s, 1);
+    for (String first : bare) {
+      RisingSnow x = new RisingSnow();
+      Due.feed(x, first);
+      x.valley();
+      long[] s = {1};
+      D.due("26 days(2)", x.days(2), 0);
+      D.due("26 days(101)", x.days(101), -1);
+      D.due("26 days(1)", x.days(1), 0);
+      D.due("27 undo()", x.undo(), true);
+      for (int i = 0; i < 3; i++) {
+        draw(s, 100);
       }
-    }
-    x.days(30);
-    y.days(30);
-    for (int p = 0; p < 2; p++) {
-      D.due("26 points of " + p, x.points(p, 0), points[p]);
-      D.due("26 points of " + p, y.points(p, 0), points[p]);
+      Due.feed(x, text);
+      D.due("4 valley()", x.valley(), 8);
+      int[] points = {1, 1};
+      for (int i = 0; i < 30; i++) {
+        if (draw(s, 100) < 50) {
+          points[(int) draw(s, 2)]++;
+          draw(s, 1);
+        }
+      }
+      x.days(30);
+      D.due("26 points of p", x.points(0, 0), points[0]);
+      D.due("26 points of q", x.points(1, 0), points[1]);
     }
   }
 

@@ -103,6 +103,16 @@ public final class QuestionTest {
     faulty("abcdefgh", 1, 0);
     faulty("7", 1, 0);
     faulty("often alle", 1, 6);
+    faulty("often not", 1, 9);
+    faulty("often [", 1, 7);
+    faulty("often 1+", 1, 8);
+    faulty("often 1*", 1, 8);
+    faulty("often all and", 1, 13);
+    faulty("total min", 1, 9);
+    faulty("total max(", 1, 10);
+    faulty("total max(1,", 1, 12);
+    faulty("total (", 1, 7);
+    faulty("total 1+2*", 1, 10);
     faulty("often all;", 1, 9);
     faulty("often all all", 1, 10);
     faulty("often all or", 1, 12);

@@ -100,6 +100,16 @@ public final class ValleyTest {
     D.faulty("first a;", 1, 0);
     D.faulty("place", 1, 5);
     D.faulty("place  ", 1, 7);
+    D.faulty("place ;", 1, 6);
+    D.faulty("way ;", 1, 4);
+    D.faulty("person ;", 1, 7);
+    D.faulty("thing ;", 1, 6);
+    D.faulty("thing t;", 1, 7);
+    D.faulty("thing t weighs;", 1, 14);
+    D.faulty("knows ;", 1, 6);
+    D.faulty(A + "person p at a;knows p;", 1, 29);
+    D.faulty(A + "person p at a;thing t weighs 1;knows p t;", 1, 48);
+    D.faulty(AB + "way a b;", 1, 23);
     D.faulty("place a", 1, 7);
     D.faulty("place a \n", 1, 9);
     D.faulty("place a;;", 1, 8);
