@@ -127,6 +127,11 @@ public final class AheadTest {
     D.due("16 b and c, or r alone: the fewest", x.keep(0, 6, 6, 1), 1);
     D.due("16 d without any", x.keep(0, 8, 6, 1), 0);
     D.due("16 b, or r: the least bits", x.keep(0, 2, 6, 1), 1);
+    x = D.told("place a;person p at a;person q at a;thing r weighs 3;thing b weighs 1 from r;thing c weighs 1 from r;thing e weighs 1 from r;"
+        + "thing d weighs 2 from r;knows p r 99;knows p b 99;knows p c 99;knows p e 99;knows p d 99;"
+        + "knows q r 2;knows q b 99;knows q c 99;knows q e 99;knows q d 99;hear points+9;"
+        + "fade points-max(0,2-know)*max(0,2-weighs)*30-max(0,know-1)*min(max(0,weighs-1),max(0,3-weighs))*30-max(0,weighs-2);", 20);
+    D.due("16 b, c, e, or r and d: the fewest, though not the least bits", x.keep(0, 30, 6, 1), 17);
   }
 
   static void best() {
