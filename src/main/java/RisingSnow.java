@@ -437,6 +437,7 @@ public final class RisingSnow {
 
     public long ask(int person) {
         if (!isPerson(person)) {
+            tape.size = 0;
             return NOTHING;
         }
         boolean fine = questions.read();

@@ -931,10 +931,10 @@ final class Model {
   }
 
   long ask(int p) {
+    text = takeTape();
     if (!who(p)) {
       return RisingSnow.NOTHING;
     }
-    text = takeTape();
     pos = 0;
     open = 0;
     fault = 0;

@@ -161,10 +161,14 @@ public final class QuestionTest {
     D.due("29 ask(0)", x.ask(0), RisingSnow.NOTHING);
     Due.feed(x, "often all");
     D.due("29 ask(2)", x.ask(2), RisingSnow.NOTHING);
-    D.due("5 the fault stays", x.fault(1), 5);
-    D.due("29 ask(-1)", x.ask(-1), RisingSnow.NOTHING);
-    D.due("29 the tape stays", x.ask(1), 3);
-    D.due("5 fault(0)", x.fault(0), 0);
+    D.due("29 the tape of nobody goes", x.feed(0, 0, 0, 0, 0), 20);
+    x.end(0);
+    D.due("5 the fault stays", x.fault(0), 1);
+    D.due("5 the fault's place stays", x.fault(1), 5);
+    D.due("29 often all", D.ask(x, 1, "often all"), 3);
+    D.due("29 ask(-1)", D.ask(x, -1, "often"), RisingSnow.NOTHING);
+    D.due("5 no fault of nobody", x.fault(0), 0);
+    D.due("5 no place of nobody", x.fault(1), -1);
     D.due("29 the tape goes", x.feed(0, 0, 0, 0, 0), 20);
     D.due("29 ask(0)", x.ask(0), RisingSnow.NOTHING);
     D.due("29 the tape goes", x.feed(0, 0, 0, 0, 0), 20);
