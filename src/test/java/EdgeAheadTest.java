@@ -107,6 +107,35 @@ public final class EdgeAheadTest {
     d.due("breaks(0)", x.breaks(0), 2);
     d.due("nothing is said", x.points(0, 0), 2);
     d.due("no act", x.has(8), 1);
+    byDay();
+  }
+
+  /** By each of these NIGHTS the DAY is one more: 99 becomes 99, 97, 93, 87, 79, 69, 57, 43, 27, 9, none. */
+  static void byDay() {
+    RisingSnow x = d.told(APT + "person q at a;knows q t 99;fade points-2*day;say points;rise day;breaks 8;thief 0;");
+    int[] points = {99, 99, 97, 93, 87, 79, 69, 57, 43, 27, 9, 0};
+    for (int n = 0; n < points.length; n++) {
+      d.due("later " + n, x.later(1, 0, n), points[n]);
+      d.due("best " + n, x.best(1, n, 1), n == 0 ? -1 : n <= 10 ? 1 : 0);
+      d.due("keep " + n, x.keep(1, 1, n, 1), n == 0 ? -1 : n <= 10 ? 0 : -1);
+    }
+    d.due("forgets(0)", x.forgets(0), 11);
+    d.due("what falls in the 11th rises at once by its DAY, 10", x.breaks(0), -1);
+    d.due("held", x.shovel(11, 1, 1), 9);
+    d.due("not held", x.shovel(11, 0, 1), 0);
+    d.due("nights(9)", x.nights(9), 0);
+    d.due("points(1, 0)", x.points(1, 0), 27);
+    d.due("from now on: 27, 9, none", x.later(1, 0, 1), 9);
+    d.due("from now on: 27, 9, none", x.later(1, 0, 2), 0);
+    d.due("keep 1", x.keep(1, 1, 1, 0), 0);
+    d.due("keep 2", x.keep(1, 1, 2, 0), -1);
+    d.due("best 1", x.best(1, 1, 1), 1);
+    d.due("best 2", x.best(1, 2, 1), 0);
+    d.due("against 1", x.against(1, 0, 1), 1);
+    d.due("against 2", x.against(1, 0, 2), 0);
+    x = d.told(APT + "knows p t 99;fade points-30*day;");
+    d.due("97 less 90 on DAY 3", x.keep(0, 1, 4, 0), 1);
+    d.due("none left on DAY 4", x.keep(0, 1, 5, 0), -1);
   }
 
   static void later() {
@@ -184,6 +213,19 @@ public final class EdgeAheadTest {
       d.due("now", x.breaks(0), 0);
       d.due("breaks(1)", x.breaks(1), row[3]);
     }
+    for (int place = 0; place < 3; place++) {
+      // 9 of t fall in the first night, 9 of u in the third
+      String rising = "place a;place b;place c;person p at " + "abc".charAt(place) + ";thing t weighs 9;thing u weighs 9;knows p t 1;knows p u 3;fade points-1;";
+      RisingSnow x = d.told(rising + "rise 3;breaks 6;");
+      d.due("6 lie, then 3, then 6", x.breaks(0), -1);
+      x = d.told(rising + "rise 3;breaks 5;");
+      d.due("6 lie", x.breaks(0), 1);
+      x = d.told(rising + "rise 2;breaks 9;");
+      d.due("7 lie, then 5, then 3 and 7", x.breaks(0), 3);
+      d.due("breaks(1)", x.breaks(1), place);
+      x = d.told(rising + "rise 2;breaks 10;");
+      d.due("7 lie, then 5, then 3 and 7", x.breaks(0), -1);
+    }
     d.says("NONE when it does nowhere, or for others.");
     RisingSnow x = d.told(text);
     none("nowhere", x.breaks(0));
@@ -212,12 +254,41 @@ public final class EdgeAheadTest {
     d.due("two, in two nights", x.keep(0, 7, 2, 1), 6);
     d.due("one of them can't be, in three", x.keep(0, 7, 3, 0), -1);
     d.due("none told", x.keep(0, 0, 20, 1), 0);
+    x = d.told("place a;person p at a;person q at a;thing t weighs 1;thing u weighs 1;knows p t 99;knows p u 1;knows q t 1;knows q u 99;fade points-1;");
+    d.due("of the first", x.keep(0, 1, 2, 1), 0);
+    d.due("of the second", x.keep(1, 1, 2, 1), 1);
+    d.due("of the first", x.keep(0, 2, 2, 1), 2);
+    d.due("of the second", x.keep(1, 2, 2, 1), 0);
+    d.due("of the second", x.keep(1, 3, 2, 1), 1);
+    // b and c fade, when q KNOWS them no more, which hang on a
+    x = d.told(HEARD + "knows p a 99;knows p b 99;knows p c 99;knows q a 1;knows q b 99;knows q c 99;");
+    d.due("b by a, or by b", x.keep(0, 2, 5, 0), 1);
+    d.due("b and c by a alone", x.keep(0, 6, 5, 0), 1);
+    d.due("b and c by a alone", x.keep(0, 6, 5, 1), 1);
+    d.due("in three nights none is needed", x.keep(0, 6, 3, 1), 0);
+    // e fades, when r KNOWS it no more, who will not know b, c and d without hearing them
+    x = d.told(HEARD + "person r at x;thing d weighs 1 from a;thing e weighs 1 from b c d;knows p a 99;knows p b 99;knows p c 99;knows p d 99;knows p e 99;"
+        + "knows q a 1;knows q b 99;knows q c 99;knows q d 99;knows r a 99;knows r b 1;knows r c 1;knows r d 1;knows r e 99;");
+    d.due("a and e (17), not b, c and d (14)", x.keep(0, 31, 5, 1), 17);
+    d.due("two", x.keep(0, 31, 5, 0), 2);
     d.says("so that he KNOWS all the told ones behind them; of like ones the least bits");
     x = d.told("place a;person p at a;person q at a;thing t weighs 1;thing u weighs 1 from t;"
         + "knows p t 99;knows p u 99;knows q t 2;knows q u 99;fade points-2+min(know-2,0)*40+hangs*2;hear points+5;");
     d.due("t keeps u as well as u itself does", x.keep(0, 2, 4, 1), 1);
     d.due("how many", x.keep(0, 2, 4, 0), 1);
+    x = d.told(HEARD + "knows p a 99;knows p b 99;knows p c 99;knows q a 1;knows q b 99;knows q c 99;");
+    d.due("b by a as well as by b", x.keep(0, 2, 5, 1), 1);
+    d.due("c by a as well as by c", x.keep(0, 4, 5, 1), 1);
+    // d fades, when r KNOWS it no more, who will not know b and c without hearing them
+    x = d.told(HEARD + "person r at x;thing d weighs 1 from b c;knows p a 99;knows p b 99;knows p c 99;knows p d 99;"
+        + "knows q a 1;knows q b 99;knows q c 99;knows r a 99;knows r b 1;knows r c 1;knows r d 99;");
+    d.due("by b and c (6) as well as by a and d (9)", x.keep(0, 15, 5, 1), 6);
+    d.due("how many", x.keep(0, 15, 5, 0), 2);
   }
+
+  // What hangs on another fades by 40 for one who alone KNOWS it.
+  static final String HEARD = "place x;person p at x;person q at x;thing a weighs 1;thing b weighs 1 from a;thing c weighs 1 from a;hear points+5;"
+      + "fade points-1-min(hangs,1)*40*max(0,2-know);";
 
   static void keptByNumbers() {
     d.says("(by numbers, each if he KNOWS it then)");
@@ -509,6 +580,13 @@ public final class EdgeAheadTest {
     against(one + "knows p t 50;say 0;thief 49;fade points+60;", 0, 2, 1);
     against(one + "knows p t 99;say 0;thief 99;", 0, 1, 0);
     against(one + "knows p t 99;say 0;thief 98;", 0, 1, 1);
+    // of 30 none are left behind the night, of 20 there are 10: it takes of the other one
+    String other = "thing v weighs 1;knows p t 30;knows p v 50;fade 30-points;say points;";
+    against(one + other, 0, 1, 0);
+    against(one + other + "thief 0;", 0, 1, 0);
+    against(one + "knows p t 29;fade 30-points;say points;thief 0;", 0, 1, 1);
+    against(one + "thing v weighs 1;knows p v 50;knows p t 9;fade points-1;say points;thief 9;", 1, 1, 1);
+    against(one + "thing v weighs 1;knows p v 50;knows p t 9;fade points-1;say points;thief 9;", 0, 1, 0);
     d.says("whether he can KNOW a THING then, whatever the thief takes");
     // he can say one of the two, the thief takes of the other
     against(two + "knows p t 10;knows p u 10;", 0, 1, 1);
@@ -521,6 +599,13 @@ public final class EdgeAheadTest {
     against(two + "knows p u 99;thief 0;", 1, 0, 1);
     against(two + "knows p t 99;knows p u 5;say points;thief 4;", 1, 1, 1);
     against(two + "knows p t 99;knows p u 5;say points;thief 4;", 1, 2, 0);
+    // two of 10 from one of three, and 3 in each night: 27 - 26
+    String three = two + "thing w weighs 1 from t u;fade points-3;say points;";
+    against(three + "knows p t 27;knows p u 27;knows p w 27;", 2, 2, 1);
+    against(three + "knows p t 27;knows p u 27;knows p w 26;", 2, 2, 0);
+    against(three + "knows p t 26;knows p u 27;knows p w 27;", 2, 2, 0);
+    against(three + "knows p t 26;knows p u 27;knows p w 27;", 1, 2, 0);
+    against(three + "knows p t 27;knows p u 27;knows p w 0;", 1, 2, 1);
     d.says("then it is NIGHT: whether he can KNOW");
     against(one + "knows p t 5;fade points-5;say points;thief 0;", 0, 1, 0);
     against(one + "knows p t 6;fade points-5;say points;thief 0;", 0, 1, 1);

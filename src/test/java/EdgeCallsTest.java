@@ -196,9 +196,17 @@ public final class EdgeCallsTest {
     d.due("of an empty tape", x.valley(), 0);
     d.due("no place", x.has(0), 0);
     d.due("status(1)", x.status(1), 0);
+    String ahead = "place a;person p at a;thing t weighs 1;knows p t 5;fade points";
+    int ones = (1595 - ahead.length()) / 2;
+    x = new RisingSnow();
+    for (int i = 0; i < 5; i++) {
+      Due.feed(x, ahead + "+1".repeat(ones) + "-" + (ones - i) + ";");
+      d.due("valley() of a long text", x.valley(), 5);
+      d.due("its SUM, whole", x.later(0, 0, 1), 5 + i);
+    }
     d.says("NONE, refused (1), with a FAULT (all stays).");
     x = middle();
-    String ahead = Twins.all(x, 1, false);
+    String before = Twins.all(x, 1, false);
     String[] faulty = {"place", "busy 101;", "place a;place a;", "fade (((((((1;", "fade 1;fade 1;"};
     for (int i = 0; i < 5; i++) {
       Due.feed(x, faulty[i]);
@@ -208,7 +216,7 @@ public final class EdgeCallsTest {
       d.due("the tape goes", x.feed(0, 0, 0, 0, 0), 20);
       x.end(0);
       if (i == 4) {
-        d.due("all stays", Twins.all(x, 1, false).equals(ahead), true);
+        d.due("all stays", Twins.all(x, 1, false).equals(before), true);
       }
     }
     d.says("Without one it is DAY 0, nothing lies, is GONE, LOST or can be undone; the seed stays.");
@@ -230,6 +238,70 @@ public final class EdgeCallsTest {
     d.due("no fade", x.later(0, 1, 40), 7);
     d.due("the seed stays", Twins.valleyLater(5, 0), Twins.valleyLater(5, 1));
     d.due("the seed stays", Twins.valleyLater(5, 0) != Twins.valleyLater(6, 0), true);
+    nothingOfOthers();
+  }
+
+  static final String FULL = "place x;place y;place z;way x y takes 4;way y z takes 5;way z x takes 6;person m at z;person n at z;person o at y;"
+      + "thing f weighs 9;thing g weighs 8 from f;thing h weighs 7 from f g;knows m f 3;knows n f 4;knows n g 5;knows m h 6;knows o h 7;"
+      + "fade points-1;say points+1;hear 50;rise 0;catch 99;breaks 0;thief 99;busy 100;";
+  static final String SPARE = "place a;place b;place c;person p at a;person q at a;thing t weighs 1;thing u weighs 2;thing v weighs 9;"
+      + "knows p u 7;knows p v 20;knows q t 1;";
+
+  /** Of valleys told ahead, and of texts with a FAULT, nothing is in THE VALLEY. */
+  static void nothingOfOthers() {
+    String alone = course(new RisingSnow(), SPARE, 11);
+    d.due("of the one ahead", course(d.told(FULL), SPARE, 11).equals(alone), true);
+    RisingSnow x = d.told(FULL);
+    d.due("valley() of nothing", x.valley(), 0);
+    d.due("of the one ahead of that", course(x, SPARE, 11).equals(alone), true);
+    x = d.told(FULL);
+    for (int i = 1; i <= 4; i++) {
+      Due.feed(x, FULL);
+      d.due("valley() once more", x.valley(), 25);
+      d.due("of the one ahead, " + i, course(x, SPARE, 11).equals(alone), true);
+    }
+    x = new RisingSnow();
+    for (String end : new String[] {"x", "thing k weighs 1 from f g x", "person k at x", "fade 1", "rise ((((((("}) {
+      Due.feed(x, FULL + end);
+      d.due("valley() with a fault", x.valley(), -1);
+      d.due("has(0)", x.has(0), 0);
+      d.due("of a text with a fault", course(x, SPARE, 11).equals(alone), true);
+      d.due("valley() of nothing", x.valley(), 0);
+    }
+    Due.feed(x, SPARE);
+    d.due("valley()", x.valley(), 11);
+    Due.feed(x, FULL + "x");
+    d.due("valley() with a fault", x.valley(), -1);
+    d.due("the latest one without a fault stays", x.has(0) + x.has(1) + x.has(2), 8);
+    d.due("and is told anew", course(x, SPARE, 11).equals(alone), true);
+  }
+
+  /** All that a valley answers at first and behind some ACTS. */
+  static String course(RisingSnow x, String text, int statements) {
+    Due.feed(x, text);
+    d.due("valley()", x.valley(), statements);
+    x.seed(1);
+    StringBuilder b = new StringBuilder();
+    answers(x, b);
+    b.append(x.days(30)).append(' ');
+    answers(x, b);
+    b.append(x.say(0, 1)).append(' ').append(x.nights(1)).append(' ').append(x.go(0, 1)).append(' ');
+    Due.feed(x, Due.image(0, new int[][] {{0, 9, 0, 0}, {0, 0, 0, 5}}, new int[][] {{0, 0, 20, 0, 0}, {0, 0, 9, 0, 0}, {0, 0, 0, 0, 0}}));
+    b.append(x.on()).append(' ').append(x.take(0, 1)).append(' ').append(x.nights(2)).append(' ');
+    answers(x, b);
+    return b.toString();
+  }
+
+  static void answers(RisingSnow x, StringBuilder b) {
+    for (int i = 0; i <= 10; i++) {
+      b.append(x.has(i)).append(' ').append(x.forgets(i)).append(' ').append(x.breaks(i)).append(' ');
+      for (int k = 0; k < 6; k++) {
+        b.append(x.letter(0, i, k)).append(' ').append(x.letter(1, i, k)).append(' ').append(x.letter(2, i, k)).append(' ').append(x.thing(i, k)).append(' ');
+        b.append(x.way(k, i)).append(' ').append(x.lies(k, i)).append(' ').append(x.person(k, i)).append(' ').append(x.points(k, i)).append(' ');
+        b.append(x.later(k, i, 3)).append(' ').append(x.best(k, i, 1)).append(' ').append(x.keep(k, i, 3, 1)).append(' ');
+        b.append(x.shovel(i, k, 1)).append(' ').append(x.route(k, i, -1)).append(' ').append(x.against(k, i, 1)).append(' ');
+      }
+    }
   }
 
   static void fault() {
@@ -528,6 +600,13 @@ public final class EdgeCallsTest {
     for (int n : new int[] {Integer.MIN_VALUE, -100, -1, 0, 101, 102, 10000, Integer.MAX_VALUE}) {
       Twins.refused("days(" + n + ")", 3, y -> y.days(n));
     }
+    x = d.told("place a;place b;place c;place d;place e;place f;thing t weighs 1;rise 5;");
+    d.on(x, 0, new int[][] {}, new int[][] {{0, 0, 99, 98, 97, 96, 95, 94}});
+    d.due("days(3)", x.days(3), 0);
+    for (int place = 0; place < 6; place++) {
+      d.due("it rises in each place by these nights: " + place, x.lies(place, 0), 84 - place);
+    }
+    d.due("has(6)", x.has(6), 90);
     lastDays(false);
   }
 
@@ -563,11 +642,33 @@ public final class EdgeCallsTest {
     d.due("undo()", x.undo(), false);
     d.due("status(4)", x.status(4), 2);
     d.due("has(3)", x.has(3), 0);
+    undoneWhole();
     Twins.refusedBy(y -> {
       y.undo();
       y.undo();
     }, "undo", 4, y -> y.undo());
     Twins.seedOfUndone();
+  }
+
+  /** Each ACT changes something of what is seen, and all of it is again as it was when it is undone. */
+  static void undoneWhole() {
+    RisingSnow x = d.told("place a;place b;place c;way a b takes 3;person p at a;person q at a;person r at b;thing t weighs 9;thing u weighs 3 from t;"
+        + "thing v weighs 8;knows p t 9;knows p u 3;knows q t 2;knows r v 1;knows q v 4;say points+7;hear points+3;fade points-1;rise 2;busy 100;");
+    x.image();
+    Acts[] acts = {y -> y.nights(1), y -> y.say(0, 0), y -> y.nights(4), y -> y.take(0, 2), y -> y.go(0, 1), y -> y.days(9), y -> y.go(2, 0), y -> y.nights(40)};
+    String[] ahead = new String[acts.length];
+    for (int i = 0; i < acts.length; i++) {
+      ahead[i] = Twins.all(x, -1, true);
+      acts[i].of(x);
+      d.due("an ACT more", x.has(8), i + 1);
+      d.due("it is another state", Twins.all(x, -1, true).equals(ahead[i]), false);
+    }
+    d.due("something is GONE", x.has(6) > 9, true);
+    d.due("all three are LOST", x.thing(0, 4) > 0 && x.thing(1, 4) > 0 && x.thing(2, 4) > 0, true);
+    for (int i = acts.length - 1; i >= 0; i--) {
+      d.due("undo()", x.undo(), true);
+      d.due("all is as it was ahead of ACT " + i, Twins.all(x, -1, true).equals(ahead[i]), true);
+    }
   }
 
   static void seed() {

@@ -280,8 +280,17 @@ public final class EdgeTextTest {
     d.due("thief", robbed("", 10), false);
     d.due("thief", robbed("", 11), true);
     d.due("busy", daysWithSaying("", 100), 0);
+    // the first DRAW of 100 by the seed 42 is 1250496027 / 64, 19539000: 0
+    RisingSnow x = d.told(APT + "knows p t 1;");
+    d.due("seed(42)", x.seed(42), true);
+    d.due("days(1)", x.days(1), 0);
+    d.due("0 is not below 0", x.points(0, 0), 1);
+    x = d.told(APT + "knows p t 1;busy 1;");
+    d.due("seed(42)", x.seed(42), true);
+    d.due("days(1)", x.days(1), 0);
+    d.due("0 is below 1", x.points(0, 0), 99);
     // a valley without them, told behind one with them, has what stands without
-    RisingSnow x = d.told("catch 1;breaks 1;thief 1;busy 100;fade 0;say 0;hear 0;rise 0;");
+    x = d.told("catch 1;breaks 1;thief 1;busy 100;fade 0;say 0;hear 0;rise 0;");
     Due.feed(x, APT + "knows p t 11;");
     d.due("valley()", x.valley(), 4);
     d.due("thief", x.against(0, 0, 1), 1);
@@ -509,6 +518,10 @@ public final class EdgeTextTest {
       for (String token : tokens) {
         for (String wrong : wrongFor(token.charAt(0)).split(" ")) {
           d.faulty(1, text + "|" + wrong + " ;");
+        }
+        // a STATEMENT that ends too soon, and the text with it
+        if (text.length() > ahead.length() && !" k+ o* kfrom ".contains(" " + token + " ") && !token.endsWith(";")) {
+          d.faulty(1, text + "|;");
         }
         text.append(token.substring(1)).append(' ');
       }
