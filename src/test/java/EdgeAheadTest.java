@@ -147,6 +147,11 @@ public final class EdgeAheadTest {
     d.due("what hangs on another", x.later(0, 1, 24), 2);
     d.due("what hangs on one not known, now", x.later(1, 1, 0), 5);
     d.due("then", x.later(1, 1, 1), 0);
+    RisingSnow y = d.told(CHAIN);
+    int[] points = {90, 88, 86, 0};
+    for (int n = 0; n < points.length; n++) {
+      d.due("what hangs on what hangs on another, " + n, y.later(0, 2, n), points[n]);
+    }
     none("later 41", x.later(0, 0, 41));
     for (int n : FAR) {
       none("later " + n, x.later(0, 0, n));
@@ -254,6 +259,9 @@ public final class EdgeAheadTest {
     d.due("two, in two nights", x.keep(0, 7, 2, 1), 6);
     d.due("one of them can't be, in three", x.keep(0, 7, 3, 0), -1);
     d.due("none told", x.keep(0, 0, 20, 1), 0);
+    x = d.told(CHAIN);
+    d.due("what hangs on what hangs on another", x.keep(0, 4, 2, 1), 0);
+    d.due("what hangs on what hangs on another", x.keep(0, 4, 3, 1), 1);
     x = d.told("place a;person p at a;person q at a;thing t weighs 1;thing u weighs 1;knows p t 99;knows p u 1;knows q t 1;knows q u 99;fade points-1;");
     d.due("of the first", x.keep(0, 1, 2, 1), 0);
     d.due("of the second", x.keep(1, 1, 2, 1), 1);
@@ -289,6 +297,10 @@ public final class EdgeAheadTest {
   // What hangs on another fades by 40 for one who alone KNOWS it.
   static final String HEARD = "place x;person p at x;person q at x;thing a weighs 1;thing b weighs 1 from a;thing c weighs 1 from a;hear points+5;"
       + "fade points-1-min(hangs,1)*40*max(0,2-know);";
+
+  // Three nights long he knows t, and so v by u.
+  static final String CHAIN = "place a;person p at a;thing t weighs 1;thing u weighs 2 from t;thing v weighs 2 from u;"
+      + "knows p t 3;knows p u 90;knows p v 90;fade points-weighs;";
 
   static void keptByNumbers() {
     d.says("(by numbers, each if he KNOWS it then)");
@@ -599,6 +611,11 @@ public final class EdgeAheadTest {
     against(two + "knows p u 99;thief 0;", 1, 0, 1);
     against(two + "knows p t 99;knows p u 5;say points;thief 4;", 1, 1, 1);
     against(two + "knows p t 99;knows p u 5;say points;thief 4;", 1, 2, 0);
+    against(CHAIN + "thief 0;say points;", 2, 2, 1);
+    against(CHAIN.replace("t 3", "t 2") + "thief 0;say points;", 2, 2, 0);
+    against(CHAIN + "thief 2;say points;", 2, 1, 0);
+    against(CHAIN + "thief 1;say points;", 2, 1, 1);
+    against(CHAIN + "thief 1;say points;", 2, 2, 0);
     // two of 10 from one of three, and 3 in each night: 27 - 26
     String three = two + "thing w weighs 1 from t u;fade points-3;say points;";
     against(three + "knows p t 27;knows p u 27;knows p w 27;", 2, 2, 1);

@@ -265,9 +265,26 @@ public final class EdgeImageTest {
     d.due("has(6)", x.has(6), 10);
     d.due("has(4)", x.has(4), 4);
     d.due("the valley stays", x.has(0) + 10 * x.has(1) + 100 * x.has(2), 222);
+    d.due("no image is written by it", x.octet(0), -1);
+    d.due("image()", x.image(), 23);
+    d.due("on()", on(x, changed(0, 78, 2)), true);
+    d.due("octet() is of the latest image()", x.octet(1), 77);
+    d.due("on()", on(x, changed(0, 77, 2)), true);
     d.due("an act behind it", x.nights(1), 0);
     d.due("can be undone", x.undo(), true);
     d.due("has(3)", x.has(3), 77);
     d.due("once", x.undo(), false);
+    // the first DRAW of 100 by the seed 0 is 92, by 1 18, by 2147483647 99: AN IMAGE does not tell it
+    String day = "place a;person p at a;thing t weighs 1;busy ";
+    int[][] draws = {{0, 92}, {1, 18}, {2147483647, 99}};
+    for (int[] draw : draws) {
+      for (int more = 0; more <= 1; more++) {
+        x = d.told(day + (draw[1] + more) + ";");
+        d.due("seed(" + draw[0] + ")", x.seed(draw[0]), true);
+        d.due("on()", on(x, Due.image(0, new int[][] {{0, 50}}, new int[][] {{0, 0, 0}})), true);
+        d.due("days(1)", x.days(1), 0);
+        d.due("the seed stays", x.points(0, 0), more == 1 ? 99 : 50);
+      }
+    }
   }
 }

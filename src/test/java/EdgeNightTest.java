@@ -133,6 +133,12 @@ public final class EdgeNightTest {
       d.due("not once more", x.nights(5), 0);
       d.due("lies(1, 0)", x.lies(1, 0), weighs);
       d.due("has(5)", x.has(5), weighs);
+      d.due("take(0, 0)", x.take(0, 0), true);
+      d.due("lies(1, 0)", x.lies(1, 0), 0);
+      d.due("29 nights from 30 on", x.nights(29), 0);
+      d.due("once more, when he KNEW it again", x.nights(1), 1);
+      d.due("lies(1, 0)", x.lies(1, 0), weighs);
+      d.due("who LOST it", x.thing(0, 4), 1);
     }
   }
 
